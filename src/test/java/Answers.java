@@ -4,8 +4,29 @@ final class Answers {
         long answer();
     }
 
+    interface Test {
+        void run(Answers answers);
+    }
+
+    private String heading = "";
     private int asked = 0;
     private int wrong = 0;
+
+    /** A sentence of the document with a test of its own, whose wrong answers are printed behind the sentence's words. */
+    void sentence(String words, Test test) {
+        int askedBefore = asked;
+        heading = words + " | ";
+        try {
+            test.run(this);
+        } catch (RuntimeException thrown) {
+            printWrong("the test itself was ended by " + thrown);
+        }
+        // A test that asks nothing would pass whatever the class does.
+        if (asked == askedBefore) {
+            printWrong("nothing was asked");
+        }
+        heading = "";
+    }
 
     void due(String call, long want, Call made) {
         compare(call, String.valueOf(want), outcome(made));
@@ -22,8 +43,7 @@ final class Answers {
     void compare(String call, String want, String got) {
         asked++;
         if (!want.equals(got)) {
-            wrong++;
-            System.out.println(call + " answered " + got + ", due is " + want);
+            printWrong(call + " answered " + got + ", due is " + want);
         }
     }
 
@@ -45,5 +65,10 @@ final class Answers {
         if (wrong != 0 || asked == 0) {
             System.exit(1);
         }
+    }
+
+    private void printWrong(String what) {
+        wrong++;
+        System.out.println(heading + what);
     }
 }

@@ -153,7 +153,7 @@ public final class ModelTest {
             }
             if (length > 1 && length < 19 && random.nextInt(6) > 0) {
                 text.setLength(length - 1);
-                text.append(Model.lastDigit(text.toString()));
+                text.append(Samples.lastDigit(text.toString()));
             }
             return Long.parseLong(text.toString());
         }
@@ -208,25 +208,6 @@ public final class ModelTest {
             return text;
         }
 
-        static boolean isGood(String number) {
-            int sum = 0;
-            for (int fromRight = 1; fromRight <= number.length(); fromRight++) {
-                int value = number.charAt(number.length() - fromRight) - '0';
-                int counts = fromRight % 2 == 0 ? 2 * value : value;
-                sum += counts > 9 ? counts - 9 : counts;
-            }
-            return sum % 10 == 0;
-        }
-
-        static int lastDigit(String number) {
-            for (int last = 0; last <= 9; last++) {
-                if (isGood(number + last)) {
-                    return last;
-                }
-            }
-            throw new AssertionError(number);
-        }
-
         int issuer(String number) {
             String longest = "";
             for (String route : routes.keySet()) {
@@ -277,7 +258,7 @@ public final class ModelTest {
                 throw new IllegalStateException();
             }
             int issuer = issuer(text);
-            if (!isGood(text)) {
+            if (!Samples.isGood(text)) {
                 return -5;
             }
             if (issuer == -1) {
@@ -308,11 +289,11 @@ public final class ModelTest {
         }
 
         long good(long number) {
-            return isGood(digits(number, 1, 18)) ? 1 : 0;
+            return Samples.isGood(digits(number, 1, 18)) ? 1 : 0;
         }
 
         long digit(long number) {
-            return lastDigit(digits(number, 1, 17));
+            return Samples.lastDigit(digits(number, 1, 17));
         }
 
         long use(long number, int time) {
@@ -323,7 +304,7 @@ public final class ModelTest {
                 return 92;
             }
             Card card = cardOf(text);
-            if (!isGood(text) || card == null) {
+            if (!Samples.isGood(text) || card == null) {
                 return 14;
             }
             if (card.blocked) {
