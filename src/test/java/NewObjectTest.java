@@ -56,9 +56,11 @@ public final class NewObjectTest {
     }
 
     private static void nothingOfAnother(Answers answers) {
+        CardDirectory before = fresh();
         CardDirectory one = Samples.withCards(10, 2);
         one.block(0, true);
         one.use(Samples.TWO, 50);
+        answers.due("use of one that was made before", 92, () -> before.use(Samples.ONE, 0));
         CardDirectory other = fresh();
         answers.due("routes()", 0, () -> other.routes());
         answers.dueIllegalArgument("used(0, 0)", () -> other.used(0, 0));
@@ -66,6 +68,7 @@ public final class NewObjectTest {
         answers.due("use at an earlier time", 92, () -> other.use(Samples.ONE, 0));
         answers.due("the other one has its routes", 1, () -> one.routes());
         answers.due("the other one has its uses", 1, () -> one.used(0, 50));
+        answers.dueIllegalArgument("the other one has its time", () -> one.used(0, 49));
     }
 
     private static void windowTooSmall(Answers answers) {
