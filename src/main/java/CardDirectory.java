@@ -262,21 +262,25 @@ public final class CardDirectory {
         }
 
         int redirect(int at, int issuer) {
-            int old = issuerAt(at);
-            if (old != NONE) {
-                issuers[at] = issuer;
+            if (!has(at)) {
+                return NONE;
             }
+            int old = issuers[at];
+            issuers[at] = issuer;
             return old;
         }
 
+        /** The last route takes the place of the one that goes, as the order does not matter. */
         int remove(int at) {
-            int old = issuerAt(at);
-            if (old != NONE) {
-                count--;
-                prefixes[at] = prefixes[count];
-                lengths[at] = lengths[count];
-                issuers[at] = issuers[count];
+            int last = count - 1;
+            if (!has(at) || !has(last)) {
+                return NONE;
             }
+            int old = issuers[at];
+            prefixes[at] = prefixes[last];
+            lengths[at] = lengths[last];
+            issuers[at] = issuers[last];
+            count = last;
             return old;
         }
 
@@ -285,16 +289,16 @@ public final class CardDirectory {
             long begin = number;
             for (int length = digitsOf(number); length > 0; length--) {
                 int at = length > MOST_ROUTE_DIGITS ? NONE : find(begin, length);
-                if (at != NONE) {
-                    return issuerAt(at);
+                if (has(at)) {
+                    return issuers[at];
                 }
                 begin /= 10;
             }
             return NONE;
         }
 
-        private int issuerAt(int at) {
-            return at >= 0 && at < count && at < MOST ? issuers[at] : NONE;
+        private boolean has(int at) {
+            return at >= 0 && at < count && at < MOST;
         }
     }
 
@@ -351,9 +355,13 @@ public final class CardDirectory {
         }
 
         void noteUse(int account, int time) {
-            if (has(account)) {
-                useTimes[account * KEPT + oldest[account]] = time;
-                oldest[account] = (oldest[account] + 1) % KEPT;
+            if (!has(account)) {
+                return;
+            }
+            int place = oldest[account];
+            if (place >= 0 && place < KEPT) {
+                useTimes[account * KEPT + place] = time;
+                oldest[account] = (place + 1) % KEPT;
             }
         }
     }
